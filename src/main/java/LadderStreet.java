@@ -727,8 +727,8 @@ public final class LadderStreet {
         static final int THEN = 264;
         static final int ELSE = 265;
         static final int FIRST_VAR = 266;
-        private static final String WORDS = "shaft person room quarrel cup breaks seed if then else "
-            + "rung deep minute width temper thirst waited here water ";
+        private static final String WORDS =
+            "shaft person room quarrel cup breaks seed if then else rung deep minute width temper thirst waited here water ";
         private static final int HOW_MANY_WORDS = 19;
         private static final String SIGNS = ";=+-*/<()";
 
