@@ -346,18 +346,18 @@ public final class LadderStreet {
 
     public int errands() {
         later.become(now);
-        return course.errandsFrom(later);
+        return course.errandsWithin(ERRANDS_MINUTES, later, town.seed, false);
     }
 
     public int mendFirst() {
         later.become(now);
         int first = NOT;
-        int soonest = course.errandsFrom(later);
+        int soonest = course.errandsWithin(ERRANDS_MINUTES, later, town.seed, false);
         for (int rung = 0; rung < town.rungs; rung++) {
             if (!now.isWhole(rung)) {
                 later.become(now);
                 later.makeWhole(rung);
-                int over = course.errandsFrom(later);
+                int over = course.errandsWithin(ERRANDS_MINUTES, later, town.seed, false);
                 if (over != NOT && (soonest == NOT || over < soonest)) {
                     soonest = over;
                     first = rung;
@@ -374,7 +374,7 @@ public final class LadderStreet {
         if (town.people == 0) {
             return NOT;
         }
-        lookAhead(n, town.seed);
+        lookAhead(n);
         int who = looks.whoWaitedLongest(later);
         return what == 0 ? who : later.of(Moment.WAITED, who);
     }
@@ -383,7 +383,7 @@ public final class LadderStreet {
         if (!isWithin(n, 0, MOST_MINUTES) || !isWithin(what, 0, 1)) {
             return NONE;
         }
-        lookAhead(n, town.seed);
+        lookAhead(n);
         int rung = looks.fullestRung(later);
         return what == 0 ? rung : course.widthsOn(later, rung);
     }
@@ -395,7 +395,7 @@ public final class LadderStreet {
         if (what <= 1 && !town.hasPerson(person)) {
             return NONE;
         }
-        lookAhead(n, town.seed);
+        lookAhead(n);
         switch (what) {
             case 0: return later.of(Moment.AT, person);
             case 1: return later.of(Moment.WAITED, person);
@@ -410,18 +410,18 @@ public final class LadderStreet {
         }
         int over = 0;
         for (int i = 0; i < s; i++) {
-            lookAhead(n, town.seed + i);
-            if (looks.peopleWithGoal(later) == 0) {
+            later.become(now);
+            if (course.errandsWithin(n, later, town.seed + i, true) != NOT) {
                 over++;
             }
         }
         return over;
     }
 
-    private void lookAhead(int n, int seed) {
+    private void lookAhead(int n) {
         later.become(now);
         for (int i = 0; i < n; i++) {
-            course.oneMinute(later, seed, true);
+            course.oneMinute(later, town.seed, true);
         }
     }
 
@@ -1386,13 +1386,13 @@ public final class LadderStreet {
             return water;
         }
 
-        /** ERRANDS from a moment on, which goes through these MINUTES. */
-        int errandsFrom(Moment moment) {
-            for (int n = 0; n <= ERRANDS_MINUTES; n++) {
+        /** In how many MINUTES all have no goal, most at most; the moment goes through these MINUTES. */
+        int errandsWithin(int most, Moment moment, int seed, boolean breaking) {
+            for (int n = 0; n <= most; n++) {
                 if (nobodyGoes(moment)) {
                     return n;
                 }
-                oneMinute(moment, town.seed, false);
+                oneMinute(moment, seed, breaking);
             }
             return NOT;
         }

@@ -134,7 +134,9 @@ public final class Promises {
         due("back(1)", x.back(1), 1999);
         on(2);
         due("feed over 2000", x.feed(0, 0, 0, 0, 0), -1);
-        due("back(19)", x.back(19), 1980);
+        due("back(18)", x.back(18), 1981);
+        due("feed over 2000 by one", x.feed(0, 0, 0, 0, 0), -1);
+        due("back(1)", x.back(1), 1980);
         due("feed to 2000", x.feed(0x20202020, 0x20202020, 0x20202020, 0x20202020, 0x20202020), 2000);
         on(4);
         due("read of blanks", x.read(), 0);
@@ -201,6 +203,10 @@ public final class Promises {
         fault("seed 12345;", 1, 5);
         fault("seed 9999;", 0, -1);
         fault("seed \u0000 3;", 1, 5);
+        fault("person \u0002 0 1 1 1;", 1, 7);
+        fault("seed \u0003;", 1, 5);
+        fault("seed 3;\u0000", 1, 7);
+        fault("person zoz 0 1 1 1;", 0, -1);
         fault("seed 3 > 2;", 1, 7);
         fault("seed 3;\u00e9", 1, 7);
     }
@@ -220,6 +226,9 @@ public final class Promises {
         fault("cup = (((((((1)))))));", 2, 12);
         fault("cup = (((((((", 2, 12);
         fault("cup = ((((((1))))))+((((((1))))));", 0, -1);
+        fault("cup = if ((((((1)))))) < ((((((2)))))) then ((((((1)))))) else ((((((1))))));", 0, -1);
+        fault("cup = if 1 < 2 then (((((((1))))))) else 1;", 2, 26);
+        fault("cup = if 1 < (((((((2))))))) then 1 else 1;", 2, 19);
         fault("cup = if ((((((1)))))) < ((((((2)))))) then 1 else (((((((1)))))));", 2, 57);
         // 133 TELLS of three TOKENS each are 399.
         String most = times(133, "seed 1;");
@@ -352,6 +361,7 @@ public final class Promises {
         due("from the left", room("20 - 5 - 3", 0), 12);
         due("* before +", room("2 + 3 * 4", 0), 14);
         due("/ rounded", room("7 / 2 * 2", 0), 6);
+        due("/ 1", room("7 / 1", 0), 7);
         due("brackets", room("(2 + 3) * 4", 0), 20);
         due("rounded towards 0", room("10 + (0 - 7) / 2", 0), 7);
         due("held to 99", room("100", 0), 99);
@@ -376,6 +386,7 @@ public final class Promises {
         due("six brackets", room("((((((rung + 1))))))", 3), 4);
         due("deep brackets keep all", room("1+2*(3+4*(5+6*(7+8*(9-9*(2-1*(1+0))))))/9", 0),
             1 + 2 * (3 + 4 * (5 + 6 * (7 + 8 * (9 - 9 * (2 - 1 * (1 + 0)))))) / 9);
+        due("of 400 TOKENS", told("room = 250" + times(198, "-1") + ";").rung(7, 0), 52);
         LadderStreet x = told("room = minute + 3;shaft 2;");
         x.minutes(5);
         due("minute", x.rung(1, 0), 8);
@@ -482,11 +493,15 @@ public final class Promises {
         x.minutes(1);
         due("broken", x.count(4), 1);
         due("no RUNG", x.mend(3), false);
+        due("it is not whole", x.rung(0, 3), 0);
+        due("BREAKS now", x.rung(0, 4), 0);
         due("RUNG -1", x.mend(-1), false);
         due("things done", x.count(9), 1);
         due("mended", x.mend(0), true);
         due("whole", x.mend(0), false);
         due("none is broken", x.count(4), 0);
+        due("it is whole", x.rung(0, 3), 1);
+        due("BREAKS now", x.rung(0, 4), 100);
         due("broke", x.rung(0, 5), 1);
         x.minutes(1);
         due("broke again", x.rung(0, 5), 2);
@@ -584,6 +599,19 @@ public final class Promises {
             }
             due("RUNGS broken by SEED " + seed * 331, x.count(4), broken);
         }
+        int unseeded = 0;
+        for (int rung = 0; rung < 12; rung++) {
+            unseeded |= lot(100, 0, rung) < 50 ? 1 << rung : 0;
+        }
+        LadderStreet w = told("shaft 12;breaks = 50;");
+        w.minutes(1);
+        due("SEED 0, if not told", w.count(4), unseeded);
+        tape(w, "seed 5;");
+        w.read();
+        tape(w, "shaft 12;breaks = 50;");
+        w.read();
+        w.minutes(1);
+        due("SEED 0 again", w.count(4), unseeded);
         // a stands on 0, b on 1, c on 2; 0 and 1 break: both fall to 2, whatever its ROOM; c stays.
         LadderStreet x = told("shaft 4;person a 0 3 0 0;person b 1 3 0 0;person c 2 3 0 0;room = 3;"
             + "breaks = if rung < 2 then 100 else 0;");
@@ -712,6 +740,9 @@ public final class Promises {
         due("the other way round", x.past(1, 2, 0, 3), 4);
         due("b to the top, a to the bottom", x.past(0, 3, 1, 0), 5);
         due("a first, then b", x.past(0, 1, 1, 3), 1);
+        LadderStreet t = told("shaft 6;person a 5 2 0 0;person b 0 2 0 0;room = 3;");
+        due("one RUNG a minute, up", t.past(0, 1, 1, 0), 4);
+        due("one RUNG a minute, down", t.past(1, 4, 0, 5), 4);
         due("one and the same", x.past(0, 1, 0, 1), -1);
         due("no person", x.past(0, 1, 2, 1), -1);
         due("no person -1", x.past(-1, 1, 0, 1), -1);
@@ -756,6 +787,16 @@ public final class Promises {
         LadderStreet z = told("shaft 3;person a 0 4 0 0;room = if minute < 4 then 3 else 4;");
         due("there is ROOM later on", z.alone(0, 1), 5);
         due("there is ROOM later on", z.alone(0, 2), 6);
+        LadderStreet u = told("shaft 2;person a 0 4 0 0;room = if minute < 39 then 3 else 4;");
+        due("40 at most", u.alone(0, 1), 40);
+        due("REACH in 40", u.reach(0), 3);
+        LadderStreet t = told("shaft 2;person a 0 4 0 0;room = if minute < 40 then 3 else 4;");
+        due("41 are too many", t.alone(0, 1), -2);
+        due("REACH in 40", t.reach(0), 1);
+        LadderStreet r = told("shaft 3;person a 0 4 0 0;room = if minute < 1 then 4 else 3;");
+        due("ROOM of now counts in the first minute", r.alone(0, 1), 1);
+        due("but not in the second", r.alone(0, 2), -2);
+        due("REACH", r.reach(0), 3);
         due("stays while there is none", z.alone(0, 0), 0);
         on(18);
         due("later on", z.reach(0), 7);
@@ -807,6 +848,8 @@ public final class Promises {
         due("LEAST 7: RUNG 2 alone", x.least(7, 0), 2);
         due("LEAST 7", x.least(7, 1), 4);
         due("LEAST 8", x.least(8, 0), -2);
+        due("LEAST 1", x.least(1, 0), 0);
+        due("LEAST 9", x.least(9, 0), -2);
         due("LEAST 8", x.least(8, 1), -2);
         due("LEAST 8, what 2", x.least(8, 2), -1);
         due("width 0", x.least(0, 0), -1);
@@ -826,6 +869,8 @@ public final class Promises {
         LadderStreet z = told("shaft 3;person a 0 1 0 0;person b 0 2 0 0;person c 2 9 0 0;room = if rung < 1 then 0 else if "
             + "rung < 2 then 9 else 0;");
         due("the wider one", z.parts(1, 1), 2);
+        LadderStreet v = told("shaft 3;person a 2 9 0 0;person b 0 9 0 0;");
+        due("the first one below", v.parts(1, 1), 1);
     }
 
     private static void homesForAll() {
@@ -858,6 +903,9 @@ public final class Promises {
         due("nobody 0", new LadderStreet().homes(11, 0), -1);
         LadderStreet w = told("shaft 1;person a 0 9 0 0;room = 8;");
         due("no ROOM", w.homes(11, -1), 0);
+        LadderStreet v = told("shaft 2;person a 0 2 0 0;person b 0 5 0 0;room = if rung < 1 then 5 else 2;");
+        due("a makes way for b", v.homes(1, 0), 1);
+        due("b has 0", v.homes(1, 1), 0);
     }
 
     private static void sharesAndEnough() {
@@ -906,6 +954,8 @@ public final class Promises {
         due("d -1", x.pairs(-1), -1);
         LadderStreet y = told("shaft 12;person b 2 1 0 0;person a 0 1 0 0;person c 4 1 0 0;person d 6 1 0 0;");
         due("b must not take c", y.pairs(2), 2);
+        LadderStreet v = told("shaft 12;person a 0 1 0 0;person b 5 1 0 0;person c 0 1 0 0;person d 5 1 0 0;");
+        due("a-c and b-d", v.pairs(0), 2);
         LadderStreet z = told("shaft 12;person b 2 1 0 0;person a 0 1 0 0;person c 4 1 0 0;");
         due("each in one", z.pairs(2), 1);
         due("nobody", new LadderStreet().pairs(11), 0);
@@ -935,6 +985,8 @@ public final class Promises {
         z.minutes(1);
         z.send(0, 2);
         due("the RUNG is not whole", z.kept(1), 0);
+        LadderStreet w = told("shaft 3;person a 1 9 0 0;person b 2 9 0 0;");
+        due("who has no goal is not kept", w.kept(0), 0);
     }
 
     private static void aheadInTime() {
@@ -948,6 +1000,11 @@ public final class Promises {
         due("n 4 who", x.waits(4, 0), 0);
         due("n 4 how long", x.waits(4, 1), 4);
         due("n 6: all broke, no goals", x.waits(6, 1), 0);
+        LadderStreet v = told("shaft 4;person a 3 4 5 0;person b 0 9 2 0;person c 1 9 0 0;person d 1 1 1 1;");
+        v.send(1, 3);
+        v.send(3, 2);
+        due("b waits", v.waits(2, 0), 1);
+        due("b waits", v.waits(2, 1), 2);
         due("n 61", x.waits(61, 0), -1);
         due("n -1", x.waits(-1, 0), -1);
         due("what 2", x.waits(1, 2), -1);
@@ -958,6 +1015,7 @@ public final class Promises {
         due("n 0", x.crowd(0, 1), 9);
         due("n 61", x.crowd(61, 0), -1);
         due("what -1", x.crowd(1, -1), -1);
+        due("what 2", x.crowd(1, 2), -1);
         due("nobody", new LadderStreet().crowd(60, 0), 0);
         due("nobody", new LadderStreet().crowd(60, 1), 0);
         LadderStreet y = told("shaft 3;person a 2 4 5 0;person b 1 4 2 0;breaks = if rung < 2 then 100 else 0;");
@@ -1017,6 +1075,8 @@ public final class Promises {
         due("none, what 2", y.meet(0, 1, 2), -1);
         LadderStreet z = told("shaft 3;person a 0 4 0 0;person b 0 4 0 0;room = 8;");
         due("where they are", z.meet(0, 1, 0), 0);
+        LadderStreet w = told("shaft 4;person a 0 4 0 0;person b 3 4 0 0;");
+        due("of alike ones the first", w.meet(0, 1, 0), 1);
         due("0 RUNGS", z.meet(0, 1, 1), 0);
     }
 
@@ -1033,6 +1093,19 @@ public final class Promises {
         x.mend(1);
         due("RUNG 2 again", x.mendFirst(), 2);
         due("nothing happens", x.count(4), 1 + 4 + 8);
+        LadderStreet z = told("shaft 4;person a 1 4 0 0;breaks = if rung < 1 then 100 else 0;");
+        z.minutes(1);
+        z.send(0, 0);
+        due("RUNG 0", z.mendFirst(), 0);
+        // Each of two people has a broken RUNG ahead: one that is mended does not end all ERRANDS, the second does.
+        LadderStreet w = told("shaft 6;person a 2 1 0 0;person b 3 1 0 0;breaks = if rung < 2 then 100 else if rung < 4 then "
+            + "0 else 100;");
+        w.minutes(1);
+        w.send(0, 1);
+        w.send(1, 4);
+        due("one of both is not enough", w.mendFirst(), -2);
+        w.mend(4);
+        due("RUNG 1", w.mendFirst(), 1);
         LadderStreet y = told("shaft 4;person a 0 4 0 0;room = 9;breaks = if rung < 3 then 0 else 100;");
         y.minutes(1);
         y.send(0, 2);
@@ -1061,6 +1134,8 @@ public final class Promises {
         due("n -1", x.year(-1, 1), -1);
         due("s 0", x.year(1, 0), -1);
         due("s 21", x.year(1, 21), -1);
+        due("s 1", x.year(0, 1), 0);
+        due("s 1", x.year(60, 1), 1);
         LadderStreet z = told("shaft 2;person a 0 4 0 0;seed 9999;");
         z.send(0, 1);
         due("seeds behind 9999", z.year(1, 20), 20);
@@ -1124,6 +1199,14 @@ public final class Promises {
         due("the goal is", x.trod(1, 1), 3);
         x.minutes(2);
         due("as they go now: b is on 4", x.trod(1, 1), 1);
+        x.forget();
+        x.tell(x.person(2, 0), false);
+        due("nor going up", x.trod(1, 1), 0);
+        on(39);
+        LadderStreet y = told("shaft 4;person a 0 1 0 0;person b 0 1 0 0;");
+        due("nobody goes: the first", y.ask(0), 0);
+        y.send(1, 3);
+        due("b alone", y.ask(0), 1);
     }
 
     private static void holdAndRestore() {
@@ -1182,6 +1265,11 @@ public final class Promises {
         x.minutes(1);
         due("minute", x.count(2), 1);
         due("empty RUNGS", x.count(15), 1 + 16);
+        LadderStreet z = told("shaft 3;person a 0 9 0 0;person b 1 9 0 0;person c 1 1 0 0;");
+        due("just ROOM is not more", z.count(13), 2);
+        due("RUNGS with nobody", z.count(15), 4);
+        LadderStreet w = told("shaft 3;person a 0 9 0 0;person b 0 1 0 0;");
+        due("more on RUNG 0", w.count(13), 1);
         LadderStreet y = told("shaft 3;person a 0 4 0 3;person b 1 6 0 2;person c 2 8 9 9;quarrel = 7;");
         y.send(0, 2);
         y.send(2, 0);
