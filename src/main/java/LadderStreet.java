@@ -576,7 +576,7 @@ public final class LadderStreet {
                     return top == 1 ? pending[0] : 0;
                 }
                 if (op == NUMBER || op == LOAD) {
-                    if (top >= pending.length) {
+                    if (top < 0 || top >= pending.length) {
                         return 0;
                     }
                     pending[top] = op == NUMBER ? arg : at(vars, arg);
