@@ -1,9 +1,5 @@
 /** The promises of ../shared/DOC.md one by one, with answers worked out by hand. */
-public final class Promises {
-    private static int wrong = 0;
-    private static int promise = 0;
-    private static int row = 0;
-
+public final class Promises extends Check {
     public static void main(String[] args) {
         aNewObject();
         feedAndBack();
@@ -39,64 +35,11 @@ public final class Promises {
         trodAndAsk();
         holdAndRestore();
         counting();
-        System.out.println(wrong == 0 ? row + " rows are as due" : wrong + " of " + row + " rows are not as due");
-        if (wrong != 0) {
-            System.exit(1);
-        }
+        finish();
     }
 
     private static void on(int number) {
-        promise = number;
-    }
-
-    private static void due(String what, long got, long want) {
-        row++;
-        if (got != want) {
-            wrong++;
-            System.out.println("promise " + promise + ": " + what + " answered " + got + ", due is " + want);
-        }
-    }
-
-    private static void due(String what, boolean got, boolean want) {
-        due(what, got ? 1 : 0, want ? 1 : 0);
-    }
-
-    /** Puts a text on the tape, to the byte. */
-    private static void tape(LadderStreet x, String text) {
-        int at = 0;
-        while (at < text.length()) {
-            int[] five = new int[5];
-            for (int i = 0; i < 20; i++) {
-                int sign = at + i < text.length() ? text.charAt(at + i) : ' ';
-                five[i / 4] = five[i / 4] << 8 | sign & 255;
-            }
-            if (x.feed(five[0], five[1], five[2], five[3], five[4]) < 0) {
-                throw new IllegalStateException("the tape is full");
-            }
-            at += 20;
-        }
-        x.back(at - text.length());
-    }
-
-    private static LadderStreet told(String text) {
-        LadderStreet x = new LadderStreet();
-        tape(x, text);
-        due("read of " + text, x.read(), 0);
-        return x;
-    }
-
-    private static void fault(String text, int number, int place) {
-        LadderStreet x = new LadderStreet();
-        tape(x, text);
-        String about = text.length() > 90 ? text.substring(0, 40) + " .. " + text.substring(text.length() - 40) : text;
-        on(4);
-        due("read of " + about, x.read(), number);
-        on(5);
-        due("place behind " + about, x.place(), place);
-    }
-
-    private static String times(int n, String s) {
-        return s.repeat(n);
+        about("promise " + number);
     }
 
     private static void aNewObject() {
@@ -158,6 +101,7 @@ public final class Promises {
     }
 
     private static void readSyntax() {
+        on(4);
         fault("", 0, -1);
         fault("   \t\r\n", 0, -1);
         fault(";", 1, 0);
@@ -212,6 +156,7 @@ public final class Promises {
     }
 
     private static void readRoom() {
+        on(4);
         String five = "person a 0 1 1 1;person b 0 1 1 1;person c 0 1 1 1;person d 0 1 1 1;person e 0 1 1 1;";
         fault(five, 0, -1);
         fault(five + "person f 0 1 1 1;", 2, 85);
@@ -251,6 +196,7 @@ public final class Promises {
     }
 
     private static void readMeaning() {
+        on(4);
         fault("shaft 0;", 5, 6);
         fault("shaft 13;", 5, 6);
         fault("shaft 1;", 0, -1);
