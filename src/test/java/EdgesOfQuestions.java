@@ -34,7 +34,8 @@ public final class EdgesOfQuestions extends Check {
         noneAheadOfNot();
         counts();
         allFive();
-        fewerThanAhead();
+        fewerThanAhead(1);
+        fewerThanAhead(2);
         finish();
     }
 
@@ -570,6 +571,10 @@ public final class EdgesOfQuestions extends Check {
         due("11", t.meet(1, 0, 1), 11);
         LadderStreet s = told("shaft 5;person a 0 4 0 0;person b 4 4 0 0;room = if rung < 1 then 8 else if rung < 4 then 7 else 8;");
         due("own RUNGS of both are alike: the first", s.meet(0, 1, 0), 0);
+        LadderStreet r = told("shaft 5;person a 0 4 0 0;person b 4 4 0 0;room = if rung < 5 then 7 else 99;");
+        due("ROOM below the last RUNG is none", r.meet(0, 1, 0), -2);
+        LadderStreet q = told("shaft 5;person a 0 4 0 0;person b 4 4 0 0;room = if rung < 0 then 99 else 7;");
+        due("ROOM above the top is none", q.meet(0, 1, 0), -2);
         about("MEET: NONE: no such ones, one and the same");
         due("one and the same", z.meet(0, 0, 0), -1);
         due("PERSON 2", z.meet(0, 2, 0), -1);
@@ -810,6 +815,9 @@ public final class EdgesOfQuestions extends Check {
         due("the first of 1, 2, 3 and 5", y.ask(0), 1);
         y.send(0, 4);
         due("4 is passed by both, 5 by b alone", y.ask(0), 5);
+        LadderStreet z = told("shaft 6;person a 0 1 0 0;person b 0 1 0 0;person c 0 1 0 0;person d 0 1 0 0;person e 2 1 0 0;");
+        z.send(4, 4);
+        due("one of five: 3 leaves four at worst, all others five", z.ask(0), 3);
     }
 
     private static void hold() {
@@ -945,12 +953,16 @@ public final class EdgesOfQuestions extends Check {
         due("e on 3", x.rung(3, 2), 16);
         due("YEAR in 3", x.year(3, 20), 0);
         due("YEAR in 4", x.year(4, 20), 20);
+        LadderStreet y = told("shaft 5;" + FIVE.replace("b 1 2", "b 2 9") + "room = 8;");
+        y.send(0, 3);
+        due("b keeps nobody, though there is no ROOM beside b", y.kept(1), 0);
     }
 
-    /** A text with fewer PEOPLE behind one with more. */
-    private static void fewerThanAhead() {
+    /** A text with two PEOPLE behind one with five, the third of whom was on a RUNG. */
+    private static void fewerThanAhead(int rung) {
         about("a text in place of the one ahead: nothing is left of PEOPLE who are no more");
-        LadderStreet x = told("shaft 12;person a 0 9 9 9;person b 1 9 9 9;person c 2 9 9 9;person d 2 9 9 9;person e 2 9 9 9;"
+        LadderStreet x = told("shaft 12;person a 0 9 9 9;person b 1 9 9 9;person c " + rung
+            + " 9 9 9;person d 2 9 9 9;person e 2 9 9 9;"
             + "breaks = if minute < 3 then 0 else 100;");
         for (int person = 0; person < 5; person++) {
             x.send(person, 11);
@@ -960,6 +972,7 @@ public final class EdgesOfQuestions extends Check {
         due("read", read(x, "shaft 3;person a 0 5 1 1;person b 2 4 1 1;"), 0);
         LadderStreet y = told("shaft 3;person a 0 5 1 1;person b 2 4 1 1;");
         due("what is seen", seen(x), seen(y));
+        due("WIDTHS on 1", x.rung(1, 1), 0);
         due("WIDTHS on 2", x.rung(2, 1), 4);
         due("PEOPLE on 2", x.rung(2, 2), 2);
         due("just ROOM", x.free(5), 6);

@@ -12,9 +12,13 @@ import java.util.TreeMap;
 
 /** Random runs of calls, each answered by LadderStreet and by Model, a second writing of the document. */
 public final class RandomRuns {
-    private static final int RUNS = 3000;
-    private static final int CALLS = 400;
+    private static final int RUNS = 7000;
+    // An object is used for at most 512 calls: what later ones answer is free.
+    private static final int CALLS = 512;
+    private static final int CALLS_OF_A_TEXT = 105;
+    private static final int CALLS_TO_FILL = 101;
     private static int wrong = 0;
+    private static int calls = 0;
 
     public static void main(String[] args) {
         int runs = args.length > 0 ? Integer.parseInt(args[0]) : RUNS;
@@ -57,28 +61,29 @@ public final class RandomRuns {
         Random r = new Random(run * 7919L + 17);
         LadderStreet x = new LadderStreet();
         Model m = new Model();
-        List<String> told = new ArrayList<>();
-        int calls = 0;
+        calls = 0;
+        int asked = 0;
         while (calls < CALLS) {
-            if (calls == 0 && r.nextInt(10) > 0 || r.nextInt(120) == 0) {
-                calls += giveText(r, x, m, told, seen, run);
+            boolean again = calls == 0 ? r.nextInt(10) > 0 : r.nextInt(120) == 0;
+            if (again && calls + CALLS_OF_A_TEXT < CALLS) {
+                giveText(r, x, m, seen, run);
             }
-            if (r.nextInt(2000) == 0) {
+            if (r.nextInt(2000) == 0 && calls + CALLS_TO_FILL < CALLS) {
                 fillTape(x, m, run);
             }
             int before = wrong;
             Call call = Call.random(r, m);
-            told.add(call.toString());
+            calls++;
+            asked++;
             long got = call.answer(x);
             long want = call.answer(m);
             note(seen, call.name, want);
             if (got != want) {
                 wrong++;
-                System.out.println("run " + run + ", call " + calls + ": " + call + " answered " + got + ", due is " + want
+                System.out.println("run " + run + ", call " + asked + ": " + call + " answered " + got + ", due is " + want
                     + "\n  text: " + m.lastText);
             }
-            calls++;
-            if (calls % 7 == 0) {
+            if (asked % 40 == 0 || calls + callsToCompare(m) + 1 > CALLS) {
                 compareAll(run, x, m, call);
             }
             if (wrong > before) {
@@ -101,16 +106,25 @@ public final class RandomRuns {
         }
     }
 
+    private static int callsToCompare(Model m) {
+        return 17 + 8 * m.people.size() + 6 * m.rungs;
+    }
+
+    /** All that can be seen, as far as there are calls left. */
     private static void compareAll(int run, LadderStreet x, Model m, Call last) {
-        for (int what = -1; what <= 17; what++) {
+        if (calls + callsToCompare(m) > CALLS) {
+            calls = CALLS;
+            return;
+        }
+        for (int what = 0; what <= 16; what++) {
             check(run, last, "count(" + what + ")", x.count(what), m.count(what));
         }
-        for (int p = 0; p < 5; p++) {
+        for (int p = 0; p < m.people.size(); p++) {
             for (int what = 0; what < 8; what++) {
                 check(run, last, "person(" + p + ", " + what + ")", x.person(p, what), m.person(p, what));
             }
         }
-        for (int g = 0; g < 12; g++) {
+        for (int g = 0; g < m.rungs; g++) {
             for (int what = 0; what < 6; what++) {
                 check(run, last, "rung(" + g + ", " + what + ")", x.rung(g, what), m.rung(g, what));
             }
@@ -118,24 +132,21 @@ public final class RandomRuns {
     }
 
     private static void check(int run, Call last, String call, int got, int want) {
+        calls++;
         if (got != want) {
             wrong++;
             System.out.println("run " + run + ", behind " + last + ": " + call + " answered " + got + ", due is " + want);
         }
     }
 
-    private static int giveText(Random r, LadderStreet x, Model m, List<String> told,
-            Map<String, Map<String, Integer>> seen, int run) {
-        int calls = 0;
+    private static void giveText(Random r, LadderStreet x, Model m, Map<String, Map<String, Integer>> seen, int run) {
         if (m.tape.length() > 0) {
             check(run, null, "back", x.back(m.tape.length()), m.back(m.tape.length()));
-            calls++;
         }
         String text = Texts.random(r);
         if (text.length() > 1990) {
             text = text.substring(0, 1990);
         }
-        told.add("text " + text);
         while (text.length() > m.tape.length()) {
             byte[] twenty = new byte[20];
             Arrays.fill(twenty, (byte) ' ');
@@ -149,19 +160,16 @@ public final class RandomRuns {
             }
             check(run, null, "feed", x.feed(five[0], five[1], five[2], five[3], five[4]),
                 m.feed(five[0], five[1], five[2], five[3], five[4]));
-            calls++;
         }
         int over = m.tape.length() - text.length();
         if (over > 0 && r.nextInt(4) > 0) {
             check(run, null, "back", x.back(over), m.back(over));
-            calls++;
         }
         int want = m.read();
         note(seen, "read", want);
         String about = "read of " + m.lastText;
         check(run, null, about, x.read(), want);
         check(run, null, "place behind " + about, x.place(), m.place());
-        return calls + 2;
     }
 
     /** One call, which both can be asked. */
