@@ -658,40 +658,44 @@ public final class EdgesOfMinutes extends Check {
 
     private static void undoing() {
         about("undo: the last thing done (send, mend, bucket, minutes) is undone; false: there is none");
-        LadderStreet x = told("shaft 3;person a 0 9 0 9;person b 1 9 0 5;quarrel = 1;breaks = if minute < 4 then 0 else 50;seed 3;");
+        String town = "shaft 3;person a 0 9 0 9;person b 1 9 0 5;quarrel = 1;breaks = if minute < 4 then 0 else 50;seed 3;";
+        LadderStreet x = told(town);
         due("none", x.undo(), false);
-        String[] states = new String[7];
+        String[] states = new String[3];
         states[0] = seen(x);
         x.send(0, 2);
         states[1] = seen(x);
         x.bucket(30);
         states[2] = seen(x);
         x.minutes(3);
-        states[3] = seen(x);
-        x.send(0, -1);
-        states[4] = seen(x);
-        x.minutes(5);
-        states[5] = seen(x);
-        int broken = Integer.numberOfTrailingZeros(x.count(4));
-        due("mended", x.mend(broken), true);
-        states[6] = seen(x);
-        for (int done = 6; done > 0; done--) {
-            due("what is seen behind " + done, seen(x), states[done]);
-            due("undone", x.undo(), true);
-            due("what is seen ahead of " + done, seen(x), states[done - 1]);
-            if (done == 3) {
-                break;
-            }
-        }
-        x.undo();
-        x.undo();
-        due("all is undone", seen(x), states[0]);
-        due("none is left", x.undo(), false);
-        due("none is left", x.count(9), 0);
+        undoTo(x, states);
         due("what is refused is no thing done", x.send(0, 9) || x.mend(0) || x.undo(), false);
         x.send(0, 2);
         x.undo();
         due("an undo is no thing done", x.undo(), false);
+        LadderStreet y = told(town);
+        y.send(0, 2);
+        y.minutes(2);
+        y.hold(1);
+        y.restore(1);
+        states[0] = seen(y);
+        y.minutes(7);
+        states[1] = seen(y);
+        due("a RUNG broke", y.count(4) > 0, true);
+        due("mended", y.mend(Integer.numberOfTrailingZeros(y.count(4))), true);
+        states[2] = seen(y);
+        y.send(1, y.person(1, 0) == 2 ? 0 : 2);
+        undoTo(y, states);
+    }
+
+    /** Undoes three things, ahead of each of which all was as told. */
+    private static void undoTo(LadderStreet x, String[] states) {
+        for (int done = 2; done >= 0; done--) {
+            due("things done", x.count(9), done + 1);
+            due("undone", x.undo(), true);
+            due("what is seen ahead of thing " + done, seen(x), states[done]);
+        }
+        due("none is left", x.undo(), false);
     }
 
     private static void undoingAtMost() {
