@@ -111,7 +111,7 @@ public final class LadderStreet {
             return NONE;
         }
         switch (what) {
-            case 0: return course.roomOf(rung, now.minute());
+            case 0: return course.roomOf(now, rung);
             case 1: return course.widthsOn(now, rung);
             case 2: return looks.peopleOn(now, rung);
             case 3: return now.isWhole(rung) ? 1 : 0;
@@ -1255,8 +1255,8 @@ public final class LadderStreet {
             this.laws = town.laws;
         }
 
-        int roomOf(int rung, int minute) {
-            laws.setAll(town.rungs, minute);
+        int roomOf(Moment moment, int rung) {
+            laws.setAll(town.rungs, moment.minute());
             laws.set(Laws.RUNG, rung);
             return Math.max(0, Math.min(MOST_TOLD, laws.worth(Laws.ROOM)));
         }
@@ -1304,7 +1304,7 @@ public final class LadderStreet {
         /** Whether a RUNG is whole and has ROOM for so much more WIDTH. */
         boolean fits(Moment moment, int rung, int width) {
             return town.hasRung(rung) && moment.isWhole(rung)
-                && widthsOn(moment, rung) + width <= roomOf(rung, moment.minute());
+                && widthsOn(moment, rung) + width <= roomOf(moment, rung);
         }
 
         void oneMinute(Moment moment, int seed, boolean breaking) {
@@ -1407,7 +1407,7 @@ public final class LadderStreet {
         }
     }
 
-    /** The ways of one or two PEOPLE while all others stand; ROOM is that of each minute. */
+    /** The ways of one or two PEOPLE while all else stands; no MINUTE happens, so ROOM stays as it is, too. */
     private static final class Ways {
         private static final int MOST_WAY = 40;
 
@@ -1424,13 +1424,48 @@ public final class LadderStreet {
             this.course = course;
         }
 
-        private void setSpace(Moment moment, int person, int other, int minute) {
+        /** A ladder has one way to a RUNG, and as ROOM stays as it is, waiting never opens it. */
+        int fewestForOne(Moment moment, int person, int rung) {
+            boolean reached = hasBit(allForOne(moment, person), rung);
+            return reached ? Math.abs(moment.of(Moment.AT, person) - rung) : NOT;
+        }
+
+        int allForOne(Moment moment, int person) {
+            int from = moment.of(Moment.AT, person);
+            int width = town.widthOf(person);
+            int reached = 1 << from;
+            for (int rung = from - 1; rung >= 0 && course.fits(moment, rung, width); rung--) {
+                reached |= 1 << rung;
+            }
+            for (int rung = from + 1; rung < town.rungs && course.fits(moment, rung, width); rung++) {
+                reached |= 1 << rung;
+            }
+            return reached;
+        }
+
+        int fewestForTwo(Moment moment, int person, int rung, int other, int otherRung) {
+            int from = moment.of(Moment.AT, person);
+            if (from < 0 || from >= places.length) {
+                return NOT;
+            }
+            setSpace(moment, person, other);
+            Arrays.fill(places, 0);
+            places[from] = 1 << moment.of(Moment.AT, other);
+            for (int n = 0; n <= MOST_WAY; n++) {
+                if (hasBit(at(places, rung), otherRung)) {
+                    return n;
+                }
+                spreadBoth(town.widthOf(person), town.widthOf(other));
+            }
+            return NOT;
+        }
+
+        private void setSpace(Moment moment, int person, int other) {
             for (int rung = 0; rung < space.length; rung++) {
                 space[rung] = NONE;
                 if (town.hasRung(rung) && moment.isWhole(rung)) {
-                    space[rung] = course.roomOf(rung, minute) - course.widthsOn(moment, rung)
-                        + ownWidth(moment, person, rung)
-                        + (other == person ? 0 : ownWidth(moment, other, rung));
+                    space[rung] = course.roomOf(moment, rung) - course.widthsOn(moment, rung)
+                        + ownWidth(moment, person, rung) + ownWidth(moment, other, rung);
                 }
             }
         }
@@ -1441,54 +1476,6 @@ public final class LadderStreet {
 
         private boolean takes(int rung, int width) {
             return rung >= 0 && rung < space.length && width <= space[rung];
-        }
-
-        int fewestForOne(Moment moment, int person, int rung) {
-            int reached = 1 << moment.of(Moment.AT, person);
-            for (int n = 0; n <= MOST_WAY; n++) {
-                if (hasBit(reached, rung)) {
-                    return n;
-                }
-                setSpace(moment, person, person, moment.minute() + n);
-                reached = spread(reached, town.widthOf(person));
-            }
-            return NOT;
-        }
-
-        int allForOne(Moment moment, int person) {
-            int reached = 1 << moment.of(Moment.AT, person);
-            for (int n = 0; n < MOST_WAY; n++) {
-                setSpace(moment, person, person, moment.minute() + n);
-                reached = spread(reached, town.widthOf(person));
-            }
-            return reached;
-        }
-
-        private int spread(int reached, int width) {
-            int more = reached;
-            for (int rung = 0; rung < MOST_RUNGS; rung++) {
-                if ((hasBit(reached, rung - 1) || hasBit(reached, rung + 1)) && takes(rung, width)) {
-                    more |= 1 << rung;
-                }
-            }
-            return more;
-        }
-
-        int fewestForTwo(Moment moment, int person, int rung, int other, int otherRung) {
-            int from = moment.of(Moment.AT, person);
-            if (from < 0 || from >= places.length) {
-                return NOT;
-            }
-            Arrays.fill(places, 0);
-            places[from] = 1 << moment.of(Moment.AT, other);
-            for (int n = 0; n <= MOST_WAY; n++) {
-                if (hasBit(at(places, rung), otherRung)) {
-                    return n;
-                }
-                setSpace(moment, person, other, moment.minute() + n);
-                spreadBoth(town.widthOf(person), town.widthOf(other));
-            }
-            return NOT;
         }
 
         private void spreadBoth(int width, int otherWidth) {
@@ -1569,7 +1556,7 @@ public final class LadderStreet {
         int overfull(Moment moment) {
             int bits = 0;
             for (int rung = 0; rung < town.rungs; rung++) {
-                if (course.widthsOn(moment, rung) > course.roomOf(rung, moment.minute())) {
+                if (course.widthsOn(moment, rung) > course.roomOf(moment, rung)) {
                     bits |= 1 << rung;
                 }
             }
@@ -1670,7 +1657,7 @@ public final class LadderStreet {
         int meetingRung(Moment moment, int person, int other) {
             int best = NOT;
             for (int rung = 0; rung < town.rungs; rung++) {
-                if (widthsWith(moment, person, other, rung) <= course.roomOf(rung, moment.minute())
+                if (widthsWith(moment, person, other, rung) <= course.roomOf(moment, rung)
                     && (best == NOT
                         || farther(moment, person, other, rung) < farther(moment, person, other, best))) {
                     best = rung;
@@ -1773,7 +1760,7 @@ public final class LadderStreet {
         boolean areFound(Moment moment, int d) {
             for (int rung = 0; rung < space.length; rung++) {
                 boolean whole = town.hasRung(rung) && moment.isWhole(rung);
-                space[rung] = whole ? course.roomOf(rung, moment.minute()) : NONE;
+                space[rung] = whole ? course.roomOf(moment, rung) : NONE;
             }
             return settle(moment, d, 0);
         }

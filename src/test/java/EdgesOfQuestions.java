@@ -9,6 +9,7 @@ public final class EdgesOfQuestions extends Check {
         errands();
         past();
         aloneAndReach();
+        waysSeeRoomOfNow();
         wholeAgainInWays();
         above();
         driest();
@@ -162,12 +163,6 @@ public final class EdgesOfQuestions extends Check {
         due("the other goes", v.past(0, 0, 1, 1), 1);
         due("but does not come back to more than ROOM", v.past(0, 1, 1, 1), -2);
         about("PAST: as they CAN in each of the minutes");
-        LadderStreet u = told("shaft 2;person a 0 5 0 0;person b 1 5 0 0;room = if minute < 40 then 9 else 10;");
-        due("40 is too late", u.past(0, 1, 1, 0), -2);
-        due("a to b", u.past(0, 1, 1, 1), -2);
-        u.minutes(1);
-        due("39 + 1", u.past(0, 1, 1, 0), 40);
-        due("39 + 1", u.past(0, 1, 1, 1), 40);
         LadderStreet t = told("shaft 12;person a 0 1 0 0;person b 11 1 0 0;room = if rung < 11 then 1 else 2;");
         due("only the last RUNG has ROOM for two: 11 down, and b, off in the eleventh, 10 more", t.past(0, 11, 1, 0), 21);
         due("a, who goes first, has left 10 as b comes", t.past(0, 11, 1, 10), 11);
@@ -206,6 +201,77 @@ public final class EdgesOfQuestions extends Check {
         due("PERSON 1", w.reach(1), -1);
         due("PERSON -1", w.reach(-1), -1);
         due("the only RUNG", told("shaft 1;person a 0 9 9 9;room = 0;").reach(0), 1);
+    }
+
+    private static void waysSeeRoomOfNow() {
+        about("ALONE, REACH, PAST: nothing happens, so they go as they CAN now: ROOM that comes");
+        LadderStreet x = new LadderStreet();
+        x.feed(1936220518, 1948267067, 544236914, 1936682528, 1629499424);
+        x.feed(824193056, 809181298, 1869573408, 1025534310, 544041326);
+        x.feed(1970562336, 1008743984, 544499813, 1847603232, 1701606245);
+        x.feed(540621600, 538976288, 538976288, 538976288, 538976288);
+        due("shaft 2; person a 0 1 0 0; room = if minute < 60 then 0 else 9;", x.read(), 0);
+        oneStepFrom60(x, 0);
+        oneStepFrom60(x, 25);
+        oneStepFrom60(x, 34);
+        oneStepFrom60(x, 1);
+        oneStepFrom60(x, 60);
+        x.undo();
+        x.undo();
+        oneStepFrom60(x, 0);
+        LadderStreet y = told("shaft 3;person a 0 5 0 0;person b 1 5 0 0;room = if minute < 40 then 9 else 10;");
+        for (int minute = 0; minute < 40; minute++) {
+            due("no ROOM for both, minute " + minute, y.past(0, 1, 1, 0), -2);
+            due("b makes ROOM for a, minute " + minute, y.past(0, 1, 1, 2), 2);
+            due("b is in the way, minute " + minute, y.alone(0, 2), -2);
+            due("b is in the way, minute " + minute, y.reach(0), 1);
+            y.minutes(1);
+        }
+        due("ROOM for both", y.past(0, 1, 1, 0), 1);
+        due("a waits for nobody", y.past(0, 1, 1, 2), 1);
+        due("past b", y.alone(0, 2), 2);
+        due("past b", y.reach(0), 7);
+
+        about("ALONE, REACH, PAST: nothing happens, so they go as they CAN now: ROOM that goes");
+        LadderStreet z = told("shaft 12;person a 0 5 0 0;person b 11 4 0 0;room = if minute < 1 then 9 else 3;");
+        due("all the way", z.alone(0, 11), 11);
+        due("all the way", z.reach(0), 4095);
+        due("all the way", z.past(0, 11, 1, 0), 11);
+        z.hold(0);
+        z.send(0, 11);
+        due("but once MINUTES happen there is none", z.errands(), -2);
+        due("and a stays on RUNG 1", z.then(0, 60, 0), 1);
+        z.minutes(1);
+        due("none", z.alone(0, 2), -2);
+        due("back to none, too", z.alone(0, 0), -2);
+        due("none", z.reach(0), 2);
+        due("none", z.past(0, 2, 1, 11), -2);
+        due("none for b", z.past(0, 1, 1, 10), -2);
+        due("both there", z.past(0, 1, 1, 11), 0);
+        z.restore(0);
+        due("held ahead of that", z.alone(0, 11), 11);
+        due("held ahead of that", z.past(1, 0, 0, 11), 11);
+
+        about("ALONE, REACH, PAST: nothing happens, so they go as they CAN now: ROOM that comes and goes");
+        LadderStreet w = told("shaft 4;person a 1 5 0 0;person b 3 4 0 0;room = if minute / 2 * 2 < minute then 9 else 4;");
+        for (int minute = 0; minute < 8; minute++) {
+            boolean odd = minute % 2 > 0;
+            due("ALONE, minute " + minute, w.alone(0, 3), odd ? 2 : -2);
+            due("REACH of a, minute " + minute, w.reach(0), odd ? 15 : 2);
+            due("REACH of b, minute " + minute, w.reach(1), odd ? 15 : 12);
+            due("PAST, minute " + minute, w.past(0, 3, 1, 0), odd ? 3 : -2);
+            due("PAST, b alone, minute " + minute, w.past(0, 1, 1, 2), 1);
+            w.minutes(1);
+        }
+    }
+
+    /** n minutes go by: from minute 60 on there is one step to go from RUNG 0, ahead of that there is none. */
+    private static void oneStepFrom60(LadderStreet x, int n) {
+        int minute = x.minutes(n);
+        boolean open = minute >= 60;
+        due("can, minute " + minute, x.can(0, 1), open ? 1 : 0);
+        due("alone, minute " + minute, x.alone(0, 1), open ? 1 : -2);
+        due("reach, minute " + minute, x.reach(0), open ? 3 : 1);
     }
 
     private static void wholeAgainInWays() {

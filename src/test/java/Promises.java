@@ -705,9 +705,16 @@ public final class Promises extends Check {
         due("a waits for b", w.past(0, 1, 1, 2), 2);
         due("b first, then a", w.past(1, 2, 0, 1), 1);
         LadderStreet v = told("shaft 2;person a 0 2 0 0;person b 1 2 0 0;room = if minute < 39 then 3 else 4;");
-        due("ROOM of the minute; 40 at most", v.past(0, 1, 1, 0), 40);
-        LadderStreet u = told("shaft 2;person a 0 2 0 0;person b 1 2 0 0;room = if minute < 40 then 3 else 4;");
-        due("41 are too many", u.past(0, 1, 1, 0), -2);
+        due("no ROOM for both now", v.past(0, 1, 1, 0), -2);
+        v.minutes(38);
+        due("nor now", v.past(0, 1, 1, 0), -2);
+        v.minutes(1);
+        due("ROOM for both now", v.past(0, 1, 1, 0), 1);
+        // They change places at the bottom: both are there in minute 11, then a has 11 RUNGS up.
+        LadderStreet u = told("shaft 12;person a 1 1 0 0;person b 0 1 0 0;room = if rung < 11 then 1 else 2;");
+        due("down and up again", u.past(0, 0, 1, 1), 22);
+        // b, who goes first, is a RUNG farther behind a: there in minute 12, gone again in minute 14.
+        due("there is no longer way", u.past(1, 1, 0, 0), 23);
     }
 
     private static void aloneAndReach() {
@@ -731,21 +738,20 @@ public final class Promises extends Check {
         due("their own too, if there is no ROOM", y.reach(0), 1);
         on(17);
         LadderStreet z = told("shaft 3;person a 0 4 0 0;room = if minute < 4 then 3 else 4;");
-        due("there is ROOM later on", z.alone(0, 1), 5);
-        due("there is ROOM later on", z.alone(0, 2), 6);
-        LadderStreet u = told("shaft 2;person a 0 4 0 0;room = if minute < 39 then 3 else 4;");
-        due("40 at most", u.alone(0, 1), 40);
-        due("REACH in 40", u.reach(0), 3);
-        LadderStreet t = told("shaft 2;person a 0 4 0 0;room = if minute < 40 then 3 else 4;");
-        due("41 are too many", t.alone(0, 1), -2);
-        due("REACH in 40", t.reach(0), 1);
+        due("there is no ROOM now", z.alone(0, 1), -2);
+        due("own RUNG", z.alone(0, 0), 0);
+        due("no way now", z.reach(0), 1);
+        z.minutes(4);
+        due("there is ROOM now", z.alone(0, 1), 1);
+        due("there is ROOM now", z.alone(0, 2), 2);
         LadderStreet r = told("shaft 3;person a 0 4 0 0;room = if minute < 1 then 4 else 3;");
-        due("ROOM of now counts in the first minute", r.alone(0, 1), 1);
-        due("but not in the second", r.alone(0, 2), -2);
-        due("REACH", r.reach(0), 3);
-        due("stays while there is none", z.alone(0, 0), 0);
+        due("ROOM of now counts in each minute", r.alone(0, 1), 1);
+        due("ROOM of now counts in each minute", r.alone(0, 2), 2);
         on(18);
-        due("later on", z.reach(0), 7);
+        due("ROOM of now counts in each minute", r.reach(0), 7);
+        r.minutes(1);
+        due("no ROOM now", r.reach(0), 1);
+        due("ROOM now", z.reach(0), 7);
         LadderStreet w = told("shaft 3;person a 1 4 0 0;breaks = if rung < 2 then 0 else 100;");
         w.minutes(1);
         due("not whole", w.reach(0), 3);

@@ -1143,7 +1143,6 @@ public final class RandomRuns {
                     }
                 }
                 here = next;
-                m.minute++;
             }
             return -2;
         }
@@ -1154,22 +1153,16 @@ public final class RandomRuns {
             Model m = state();
             Person p = m.people.get(person);
             when[p.rung] = 0;
-            for (int n = 1; n <= 40; n++) {
-                int[] next = when.clone();
-                for (int g = 0; g < rungs; g++) {
-                    p.rung = g;
-                    if (when[g] < 0) {
-                        continue;
-                    }
-                    if (g > 0 && when[g - 1] < 0 && m.canGo(p, g - 1)) {
-                        next[g - 1] = n;
-                    }
-                    if (g < rungs - 1 && when[g + 1] < 0 && m.canGo(p, g + 1)) {
-                        next[g + 1] = n;
+            Deque<Integer> come = new ArrayDeque<>(List.of(p.rung));
+            while (!come.isEmpty()) {
+                int g = come.removeFirst();
+                p.rung = g;
+                for (int up = -1; up <= 1; up += 2) {
+                    if (isRung(g + up) && when[g + up] < 0 && m.canGo(p, g + up)) {
+                        when[g + up] = when[g] + 1;
+                        come.addLast(g + up);
                     }
                 }
-                when = next;
-                m.minute++;
             }
             return when;
         }
