@@ -1718,26 +1718,26 @@ public final class LadderStreet {
             return bits;
         }
 
-        private boolean areNear(Moment moment, int p, int q, int d) {
+        private static boolean areNear(Moment moment, int p, int q, int d) {
             return Math.abs(moment.of(Moment.AT, p) - moment.of(Moment.AT, q)) <= d;
         }
 
         int pairsWithin(Moment moment, int d) {
-            return mostPairs(moment, d, 0, 0);
+            return mostPairs(town, moment, d, 0, 0);
         }
 
         /** The most pairs among the PEOPLE from first on who are not in a pair yet. */
-        private int mostPairs(Moment moment, int d, int first, int paired) {
+        private static int mostPairs(Town town, Moment moment, int d, int first, int paired) {
             if (first >= town.people || first >= MOST_PEOPLE) {
                 return 0;
             }
-            int most = mostPairs(moment, d, first + 1, paired);
+            int most = mostPairs(town, moment, d, first + 1, paired);
             if (hasBit(paired, first)) {
                 return most;
             }
             for (int p = first + 1; p < town.people; p++) {
                 if (!hasBit(paired, p) && areNear(moment, first, p, d)) {
-                    most = Math.max(most, 1 + mostPairs(moment, d, first + 1, paired | 1 << p));
+                    most = Math.max(most, 1 + mostPairs(town, moment, d, first + 1, paired | 1 << p));
                 }
             }
             return most;
@@ -1762,27 +1762,27 @@ public final class LadderStreet {
                 boolean whole = town.hasRung(rung) && moment.isWhole(rung);
                 space[rung] = whole ? course.roomOf(moment, rung) : NONE;
             }
-            return settle(moment, d, 0);
+            return settle(this, moment, d, 0);
         }
 
         int homeOf(int person) {
             return at(chosen, person);
         }
 
-        private boolean settle(Moment moment, int d, int person) {
-            if (person < 0 || person >= town.people || person >= chosen.length) {
+        private static boolean settle(Homes homes, Moment moment, int d, int person) {
+            if (person < 0 || person >= homes.town.people || person >= homes.chosen.length) {
                 return true;
             }
             int from = moment.of(Moment.AT, person);
-            int width = town.widthOf(person);
-            for (int rung = 0; rung < space.length; rung++) {
-                if (Math.abs(rung - from) <= d && width <= space[rung]) {
-                    chosen[person] = rung;
-                    space[rung] -= width;
-                    if (settle(moment, d, person + 1)) {
+            int width = homes.town.widthOf(person);
+            for (int rung = 0; rung < homes.space.length; rung++) {
+                if (Math.abs(rung - from) <= d && width <= homes.space[rung]) {
+                    homes.chosen[person] = rung;
+                    homes.space[rung] -= width;
+                    if (settle(homes, moment, d, person + 1)) {
                         return true;
                     }
-                    space[rung] += width;
+                    homes.space[rung] += width;
                 }
             }
             return false;

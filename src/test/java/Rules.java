@@ -133,8 +133,31 @@ public final class Rules {
         Scanner scanner = new Scanner(trees, unit);
         scanner.scan(unit, null);
         for (Map.Entry<String, Set<String>> e : scanner.calls.entrySet()) {
+            lookAtRecursion(e.getKey(), scanner);
             must(depth(e.getKey(), scanner.calls, new LinkedHashSet<>()) <= 8,
                 "11: calls go too deep from " + e.getKey() + ": " + depth(e.getKey(), scanner.calls, new LinkedHashSet<>()));
+        }
+    }
+
+    /** A method that calls itself must be private and static, methods that call one another private. */
+    private static void lookAtRecursion(String method, Scanner scanner) {
+        Set<javax.lang.model.element.Modifier> flags = scanner.flags.getOrDefault(method, Set.of());
+        boolean isPrivate = flags.contains(javax.lang.model.element.Modifier.PRIVATE);
+        boolean isStatic = flags.contains(javax.lang.model.element.Modifier.STATIC);
+        Set<String> calls = scanner.calls.getOrDefault(method, Set.of());
+        must(!calls.contains(method) || isPrivate && isStatic, "8: calls itself, not private static: " + method);
+        Set<String> reached = new LinkedHashSet<>();
+        for (String to : calls) {
+            addReached(to, scanner.calls, reached);
+        }
+        must(!reached.contains(method) || isPrivate, "8: recursion, not private: " + method);
+    }
+
+    private static void addReached(String from, Map<String, Set<String>> calls, Set<String> reached) {
+        if (reached.add(from)) {
+            for (String to : calls.getOrDefault(from, Set.of())) {
+                addReached(to, calls, reached);
+            }
         }
     }
 
@@ -155,6 +178,7 @@ public final class Rules {
 
     private static final class Scanner extends TreePathScanner<Void, Void> {
         final Map<String, Set<String>> calls = new LinkedHashMap<>();
+        final Map<String, Set<javax.lang.model.element.Modifier>> flags = new LinkedHashMap<>();
         private final Trees trees;
         private final SourcePositions places;
         private final CompilationUnitTree unit;
@@ -185,6 +209,7 @@ public final class Rules {
             Element e = trees.getElement(getCurrentPath());
             method = name(e);
             calls.putIfAbsent(method, new LinkedHashSet<>());
+            flags.put(method, e.getModifiers());
             long from = lines.getLineNumber(places.getStartPosition(unit, m));
             long till = lines.getLineNumber(places.getEndPosition(unit, m));
             must(till - from < 60, "11: " + method + " has " + (till - from + 1) + " lines");
